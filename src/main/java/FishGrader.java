@@ -26,6 +26,7 @@ public final class FishGrader {
     private static final int MAX_QUOTA = 999999;
     private static final int MAX_WEIGHT = 60000;
     private static final int RULES = 3;
+    private static final int GREATEST = 0x7fffffff;
 
     private static final int WAITING = 0;
     private static final int REJECTED = 1;
@@ -250,7 +251,7 @@ public final class FishGrader {
 
     public boolean isStopped(int tick) throws IllegalStateException, IllegalArgumentException {
         requireGrader();
-        requireRange(tick, 1, Integer.MAX_VALUE);
+        requireRange(tick, 1, GREATEST);
         return setup.stopsAt(tick);
     }
 
@@ -411,7 +412,7 @@ public final class FishGrader {
         requireGrader();
         requireRange(n, 1, MAX_LIMIT_TICKS);
         int best = 0;
-        int smallest = Integer.MAX_VALUE;
+        int smallest = GREATEST;
         for (int limit = 0; limit <= 1000; limit += 10) {
             prepareScratch();
             scratch.limit = limit;
@@ -983,6 +984,9 @@ public final class FishGrader {
                 tokens.step();
                 good = sample();
             }
+            if (!good) {
+                return false;
+            }
             int item = state.items.addWaiting(setup.weightFor(readings, refs));
             for (int votes = 0; good && isAt(Word.VOTE); votes++) {
                 if (votes >= MAX_VOTES) {
@@ -1500,7 +1504,7 @@ public final class FishGrader {
                 place = placeByRule(species, places, goal - weight);
             }
             if (place == NONE && poolCount >= setup.poolSize) {
-                place = smallestSum(species, places, 0, Integer.MAX_VALUE);
+                place = smallestSum(species, places, 0, GREATEST);
             }
             return place;
         }
