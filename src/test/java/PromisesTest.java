@@ -41,6 +41,9 @@ public final class PromisesTest {
         saves();
         labels();
         reports();
+        manyBoxes();
+        fullPool();
+        loadsAfterIce();
         DUE.end();
     }
 
@@ -570,6 +573,13 @@ public final class PromisesTest {
         DUE.same("115 alone closes with every limit", dear.bestLimit(2), 0);
         DUE.same("limit stays", g.setLimit(5), 0);
         DUE.same("bestLimit(60)", g.bestLimit(60), 40);
+        // With 1000 the 1085 closes the box of 10; below, it fills the pool, and the 5000 has to go into the box.
+        FishGrader wide = Due.load("grader reference 100 margin 0 limit 0 pool 1" + species("a", 100, 9999, 1, 1)
+                + items("a", 10, 1085, 5000));
+        DUE.same("1000 is tried", wide.bestLimit(3), 1000);
+        FishGrader even = Due.load("grader reference 100 margin 0 limit 0 pool 1" + species("a", 100, 9999, 1, 1)
+                + items("a", 60, 140));
+        DUE.same("100 given away for a box is as good as none", even.bestLimit(2), 0);
         for (int bad : new int[] {-1, 0, 61}) {
             DUE.argument("bestLimit", () -> g.bestLimit(bad));
         }
@@ -789,6 +799,7 @@ public final class PromisesTest {
         DUE.same("quota(1)", g.quota(1), 40);
         DUE.same("moveQuota(1, 0, 40)", g.moveQuota(1, 0, 40), 0);
         DUE.same("quota(0)", g.quota(0), 70);
+        DUE.same("moveQuota(0, 1, 1)", g.moveQuota(0, 1, 1), 69);
         FishGrader rich = Due.load(PLAIN + species("a", 100, 999999, 1, 1) + species("b", 90, 999999, 1, 1));
         DUE.same("all of it", rich.moveQuota(0, 1, 999999), 0);
         DUE.same("more than a text may say", rich.quota(1), 1999998);
@@ -881,5 +892,104 @@ public final class PromisesTest {
         g.advance(2);
         g.setTarget(1, 50);
         DUE.same("late", Due.written(g, g.report()), "cod 2x101 13 215/9999 302;ling 0x50 0 50/50 0;all 2 302");
+    }
+
+    /** As many items and closed boxes as there can be. */
+    private static void manyBoxes() {
+        DUE.part("80 items and boxes");
+        StringBuilder text = new StringBuilder(PLAIN).append(";ice 100 0 0 0 0").append(species("a", 100, 999999, 3, 2));
+        for (int i = 0; i < 60; i++) {
+            text.append(";item 1 1 vote a 9");
+        }
+        FishGrader g = Due.load(text.toString());
+        for (int i = 60; i < 80; i++) {
+            DUE.same("addItem", g.addItem(i + 41, 100, 0, 9), i);
+        }
+        DUE.same("lookahead", g.lookahead(0, 2, 12), 0);
+        DUE.same("closedIn", g.closedIn(100), 80);
+        DUE.same("giveawayIn", g.giveawayIn(100), 210);
+        DUE.same("bestLimit", g.bestLimit(60), 0);
+        DUE.same("bestRule", g.bestRule(100), 0);
+        DUE.same("bestMove", g.bestMove(1, 100), NONE);
+        DUE.same("firstLate", g.firstLate(100), 2);
+        DUE.same("advance", g.advance(100), 80);
+        DUE.same("closed", g.closed(), 80);
+        DUE.same("itemsIn", g.itemsIn(0, 0), 0);
+        DUE.same("rejected", g.rejected(), 0);
+        DUE.same("boxOf(79)", g.boxOf(79), 79);
+        DUE.same("closedWeight(79)", g.closedWeight(79), 120);
+        DUE.same("worstBox(0)", g.worstBox(0), 79);
+        DUE.same("worstBox(79)", g.worstBox(79), 59);
+        DUE.index("worstBox(80)", () -> g.worstBox(80));
+        DUE.same("nextIced(79)", g.nextIced(79), 79);
+        DUE.same("iceNeeded", g.iceNeeded(), 8210);
+        DUE.same("late", g.late(), 80);
+        DUE.same("label(79)", Due.written(g, g.label(79)), "a 120+20 wait");
+        DUE.same("report", Due.written(g, g.report()), "a 80x100 210 8210/999999 8000;all 80 8000");
+        DUE.same("save", g.save(), 100);
+        DUE.same("restore", g.restore(), 100);
+        DUE.state("addItem", () -> g.addItem(1, 1, 0, 1));
+    }
+
+    /** A box of 95 and ten items of 10 to 19 in the pool. */
+    private static void fullPool() {
+        DUE.part("a pool of 10");
+        FishGrader g = Due.load("grader reference 100 margin 0 limit 0 pool 10" + species("a", 100, 9999, 1, 2)
+                + items("a", 95, 10, 11, 12, 13, 14, 15, 16, 17, 18, 19, 20));
+        g.advance(11);
+        DUE.same("pooled", g.pooled(), 10);
+        DUE.same("poolItem(9)", g.poolItem(9), 10);
+        g.setTarget(0, 240);
+        DUE.same("all ten", g.combination(0, 0), 1023);
+        g.setTarget(0, 239);
+        DUE.same("no nine are enough", g.combination(0, 0), 1023);
+        g.setTarget(0, 230);
+        DUE.same("without the 10", g.combination(0, 0), 1022);
+        DUE.same("combine", g.combine(0, 0), 0);
+        DUE.same("pooled", g.pooled(), 1);
+        DUE.same("poolItem(0)", g.poolItem(0), 1);
+        g.undo();
+        DUE.same("release(9, 0)", g.release(9, 0), NONE);
+        DUE.same("pooled", g.pooled(), 9);
+        g.undo();
+        g.setTarget(0, 100);
+        DUE.same("the pool is full: case 4", g.advance(1), 1);
+        DUE.same("closedWeight", g.closedWeight(0), 115);
+    }
+
+    private static void loadsAfterIce() {
+        DUE.part("a new grader has nothing of the one before");
+        FishGrader g = new FishGrader();
+        String text = "grader reference 100 margin 0 limit 9 pool 3;ice 10 50 100 1 5;stop 1 1"
+                + species("a", 100, 9999, 2, 1) + species("b", 30, 40, 1, 1) + items("a", 100, 70, 70, 70)
+                + items("b", 50) + ";item 1 1";
+        for (int i = 0; i < 4; i++) {
+            Due.append(g, text);
+            DUE.same("load", g.load(text.length()), 6);
+            DUE.same("ice", g.ice(), 0);
+            DUE.same("iceUsed", g.iceUsed(), 0);
+            DUE.same("closed", g.closed(), 0);
+            DUE.same("pooled", g.pooled(), 0);
+            DUE.same("late", g.late(), 0);
+            DUE.same("report", Due.written(g, g.report()), "a 0x100 0 0/9999 0;b 0x30 0 0/40 0;all 0 0");
+            DUE.same("closedIn", g.closedIn(7), 1);
+            g.setRule(1);
+            g.advance(7);
+            DUE.same("ice", g.ice(), 100);
+            DUE.same("iceUsed", g.iceUsed(), 10);
+            DUE.same("pooled", g.pooled(), 1);
+            DUE.same("rejected", g.rejected(), 1);
+            DUE.same("discarded", g.discarded(1), 50);
+        }
+        String plain = PLAIN + species("c", 100, 9999, 1, 1) + items("c", 100);
+        Due.append(g, plain);
+        g.load(plain.length());
+        DUE.same("isStopped", g.isStopped(1) ? 1 : 0, 0);
+        DUE.same("speciesCount", g.speciesCount(), 1);
+        g.advance(3);
+        DUE.same("ice", g.ice(), 0);
+        DUE.same("iced without ice", g.icedAt(0), 2);
+        DUE.same("late", g.late(), 1);
+        DUE.same("label", Due.written(g, g.label(0)), "c 100+0 ice2");
     }
 }

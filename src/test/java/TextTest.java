@@ -201,6 +201,7 @@ public final class TextTest {
         good("grader reference 000100 margin 000000 limit 0 pool 0" + COD);
         good(HEAD + ";item 5 5" + COD + ";item 5 5 vote cod 1");
         good(HEAD + COD + ";species coda target 1 quota 1 boxes 1 price 1;species co target 1 quota 1 boxes 1 price 1");
+        good(HEAD + ";species az target 1 quota 1 boxes 1 price 1;species zza target 1 quota 1 boxes 1 price 1");
         good(HEAD + ";species graders target 1 quota 1 boxes 1 price 1;species vot target 1 quota 1 boxes 1 price 1");
     }
 
