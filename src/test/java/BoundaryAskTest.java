@@ -166,8 +166,8 @@ public final class BoundaryAskTest {
         FishGrader g = Due.load(Lines.head(50, 0, 0) + Lines.species("a", 1, 1, 1, 1) + Lines.species("b", 1, 1, 1, 1)
                 + Lines.species("c", 1, 1, 1, 1) + ";item 1 1;item 1 1 vote c 4;item 1 1 vote a 4 vote c 4"
                 + ";item 1 1 vote a 3 vote b 5 vote c 9;item 1 1 vote c 5 vote b 3 vote c 5 vote b 3"
-                + ";item 1 1 vote a 99 vote a 99 vote a 99 vote a 99 vote a 99");
-        int[] due = {0, 4, 0, 4, 4, 495};
+                + ";item 1 1 vote a 99 vote a 99 vote a 99 vote a 99 vote a 99;item 1 1 vote a 5 vote c 9");
+        int[] due = {0, 4, 0, 4, 4, 495, 4};
         for (int i = 0; i < due.length; i++) {
             DUE.same("agreement(" + i + ")", g.agreement(i), due[i]);
         }
@@ -450,6 +450,9 @@ public final class BoundaryAskTest {
         // Rules 0 and 1 close 110 alone, rule 2 110 and 102: 10/1 and 12/2.
         FishGrader mean = one(40, 2, 2, 55, 55, 67, 21, 81);
         DUE.same("6 is less than 10", mean.bestRule(5), 2);
+        // Rules 0 and 1 close 111 and 102, rule 2 only 111: 13/2 and 11/1.
+        FishGrader first = one(40, 2, 2, 56, 55, 10, 66, 26);
+        DUE.same("6.5 is less than 11", first.bestRule(5), 0);
         DUE.part("promise 45: a rule with which no box is closed comes behind all others");
         // Rules 0 and 2 fill 90 and 60, rule 1 fills 50 + 30 + 10 + ..: only rule 1 reaches 100.
         DUE.same("only rule 1 closes a box", one(0, 0, 2, 50, 60, 30, 10).bestRule(4), 1);
@@ -634,6 +637,11 @@ public final class BoundaryAskTest {
         DUE.same("the 30 is in the box: 30 + 75", g.lookahead(0, 0, 1), 5);
         DUE.same("an empty box: 75", g.lookahead(0, 1, 1), NONE);
         DUE.same("an empty box: 75 + 70", g.lookahead(0, 1, 2), 45);
+        FishGrader second = Due.load(plain(0, 0) + Lines.species("a", 100, 600, 2, 1) + Lines.species("b", 100, 600, 2, 1)
+                + Lines.items("a", 10) + Lines.items("b", 70, 60, 45));
+        second.advance(3);
+        DUE.same("a box of the second species: 70 + 45", second.lookahead(1, 0, 1), 15);
+        DUE.same("its other box: 60 + 45", second.lookahead(1, 1, 1), 5);
         DUE.part("promise 49: any set of one or more items");
         g.setTarget(0, 30);
         DUE.same("one item at least", g.lookahead(0, 0, 12), 70);

@@ -13,6 +13,7 @@ public final class BoundaryChangeTest {
 
     public static void main(String[] args) {
         firstListedException();
+        withoutGrader();
         refusedCallsChangeNothing();
         whatIfsChangeNothing();
         everyChangeIsUndone();
@@ -22,6 +23,7 @@ public final class BoundaryChangeTest {
         combine();
         combineRefused();
         release();
+        fullPool();
         releaseRefused();
         addItemRange();
         addItemIsPlain();
@@ -53,9 +55,10 @@ public final class BoundaryChangeTest {
     private static FishGrader rich() {
         FishGrader g = Due.load(Lines.head(5, 5, 4) + Lines.ice(50, 14, 80, 1, 10) + ";stop 4 5"
                 + Lines.species("a", 100, 600, 2, 3) + Lines.species("b", 90, 300, 1, 1) + Lines.species("c", 50, 40, 3, 2)
-                + Lines.items("a", 60, 70, 44, 90, 80) + Lines.items("b", 60, 50, 95) + Lines.items("c", 30, 11)
+                + Lines.items("a", 60, 70, 44) + Lines.items("b", 60, 31) + Lines.items("a", 90, 80)
+                + Lines.items("b", 60, 50, 95) + Lines.items("c", 30, 11)
                 + ";item 5 5 vote a 4 vote b 3;item 7 100" + Lines.items("a", 95, 55, 15, 20) + Lines.items("b", 10));
-        g.advance(17);
+        g.advance(19);
         return g;
     }
 
@@ -104,19 +107,32 @@ public final class BoundaryChangeTest {
         FishGrader empty = one(0, 0, 1);
         DUE.index("combine(0, 1) of an empty pool", () -> empty.combine(0, 1));
         DUE.index("combine(1, 0) of an empty pool", () -> empty.combine(1, 0));
-        DUE.part("section 4: IllegalStateException before all others if there is no grader");
-        FishGrader none = new FishGrader();
-        DUE.state("weight(0)", () -> none.weight(0));
-        DUE.state("firstClosed(0, 0)", () -> none.firstClosed(0, 0));
-        DUE.state("bestMove(0, 0)", () -> none.bestMove(0, 0));
-        DUE.state("lookahead(0, 0, 0)", () -> none.lookahead(0, 0, 0));
-        DUE.state("combine(0, 0)", () -> none.combine(0, 0));
-        DUE.state("release(0, 0)", () -> none.release(0, 0));
-        DUE.state("addItem(-1, 0, 9, 0)", () -> none.addItem(-1, 0, 9, 0));
-        DUE.state("setTarget(0, 0)", () -> none.setTarget(0, 0));
-        DUE.state("moveQuota(0, 0, 0)", () -> none.moveQuota(0, 0, 0));
-        DUE.state("isStopped(0)", () -> none.isStopped(0));
-        DUE.state("label(0)", () -> none.label(0));
+    }
+
+    /** With -1 and 0 another exception would apply as well, with 1 none of those that need no grader. */
+    private static void withoutGrader() {
+        DUE.part("section 4: IllegalStateException, before all others, if there is no grader");
+        FishGrader g = new FishGrader();
+        for (int i = -1; i <= 1; i++) {
+            int k = i;
+            Runnable[] calls = {() -> g.weight(k), () -> g.score(k, k), () -> g.speciesOf(k), () -> g.stateOf(k),
+                () -> g.boxOf(k), () -> g.agreement(k), () -> g.content(k, k), () -> g.itemsIn(k, k),
+                () -> g.closedSpecies(k), () -> g.closedWeight(k), () -> g.giveaway(k), () -> g.closedAt(k),
+                () -> g.icedAt(k), () -> g.nextIced(k), () -> g.worstBox(k), () -> g.poolItem(k), () -> g.isStopped(k),
+                () -> g.late(), () -> g.landed(k), () -> g.discarded(k), () -> g.quota(k), () -> g.target(k),
+                () -> g.totalGiveaway(k), () -> g.earnings(k), () -> g.meanGiveaway(k, true),
+                () -> g.meanGiveaway(k, false), () -> g.closedIn(k), () -> g.giveawayIn(k), () -> g.firstClosed(k, k),
+                () -> g.firstLate(k), () -> g.bestRule(k), () -> g.bestMove(k, k), () -> g.bestLimit(k),
+                () -> g.combination(k, k), () -> g.lookahead(k, k, k), () -> g.iceNeeded(), () -> g.advance(k),
+                () -> g.combine(k, k), () -> g.release(k, k), () -> g.addItem(k, k, k, k), () -> g.setRule(k),
+                () -> g.setLimit(k), () -> g.setTarget(k, k), () -> g.moveQuota(k, k, k), () -> g.moveQuota(0, 1, k),
+                () -> g.undo(), () -> g.save(), () -> g.restore(), () -> g.label(k), () -> g.report()};
+            for (int c = 0; c < calls.length; c++) {
+                DUE.state("call " + c + " with " + k, calls[c]);
+            }
+        }
+        DUE.same("undoable", g.undoable(), 0);
+        DUE.same("items", g.items(), 0);
     }
 
     /** Calls that are refused in the rich grader. */
@@ -167,10 +183,12 @@ public final class BoundaryChangeTest {
     private static void refusedCallsChangeNothing() {
         DUE.part("section 4: a call that throws an exception changes nothing");
         FishGrader g = rich();
-        DUE.same("closed boxes", g.closed(), 3);
-        DUE.same("an iced one, after its due time", g.icedAt(0), 5);
-        DUE.same("late", g.late(), 1);
-        DUE.same("one that waits", g.nextIced(0), 2);
+        DUE.same("closed boxes", g.closed(), 4);
+        DUE.same("also of the second species", g.closedSpecies(1), 1);
+        DUE.same("iced after its due time, 4", g.icedAt(0), 5);
+        DUE.same("iced after its due time, 8", g.icedAt(1), 9);
+        DUE.same("late", g.late(), 2);
+        DUE.same("one that waits", g.nextIced(0), 3);
         DUE.same("pooled", g.pooled(), 4);
         for (int i = 0; i < 8; i++) {
             g.setLimit(20 + i);
@@ -387,6 +405,29 @@ public final class BoundaryChangeTest {
         DUE.same("60 + 70 - 10", low.release(0, 0), 120);
     }
 
+    private static void fullPool() {
+        DUE.part("promises 52 and 53: a pool of 10 items");
+        FishGrader g = one(0, 10, 1, 95, 10, 11, 12, 13, 14, 15, 16, 17, 18, 19, 20);
+        g.advance(11);
+        DUE.same("pooled", g.pooled(), 10);
+        DUE.index("release(10, 0)", () -> g.release(10, 0));
+        DUE.same("the first item", g.release(0, 0), 5);
+        DUE.same("pooled", g.pooled(), 9);
+        DUE.same("poolItem(0)", g.poolItem(0), 2);
+        DUE.same("poolItem(8)", g.poolItem(8), 10);
+        DUE.index("poolItem(9)", () -> g.poolItem(9));
+        g.undo();
+        DUE.same("the last item", g.release(9, 0), 14);
+        DUE.same("poolItem(8)", g.poolItem(8), 9);
+        g.undo();
+        g.setTarget(0, 240);
+        DUE.same("all ten", g.combine(0, 0), 0);
+        DUE.same("closedWeight", g.closedWeight(0), 240);
+        DUE.same("pooled", g.pooled(), 0);
+        g.advance(1);
+        DUE.same("the last item is put into the new box", g.content(0, 0), 20);
+    }
+
     private static void releaseRefused() {
         DUE.part("promise 53: no such index in the pool, or no such place");
         FishGrader g = pooled();
@@ -455,6 +496,20 @@ public final class BoundaryChangeTest {
         DUE.same("score", g.score(3, 1), 6);
         DUE.same("weight", g.weight(3), 7);
         DUE.same("agreement", g.agreement(3), 6);
+        DUE.part("promise 54: nor of one that a restored state does not have");
+        FishGrader h = Due.load(plain(0, 0) + Lines.species("a", 100, 999, 1, 1) + Lines.species("b", 100, 999, 1, 1));
+        h.save();
+        for (int round = 0; round < 3; round++) {
+            DUE.same("addItem", h.addItem(50, 100, round % 2, 9), 0);
+            DUE.same("stateOf", h.stateOf(0), 0);
+            DUE.same("boxOf", h.boxOf(0), NONE);
+            DUE.same("speciesOf", h.speciesOf(0), round % 2);
+            DUE.same("score", h.score(0, round % 2), 9);
+            DUE.same("score of the other", h.score(0, 1 - round % 2), 0);
+            h.advance(1);
+            DUE.same("stateOf", h.stateOf(0), 4);
+            h.restore();
+        }
     }
 
     private static void eightyItems() {
@@ -470,6 +525,8 @@ public final class BoundaryChangeTest {
         DUE.index("species", () -> g.addItem(-1, 0, 1, 0));
         DUE.same("items", g.items(), 80);
         DUE.same("undoable", g.undoable(), 8);
+        DUE.same("no item in the box of 80 items", g.itemsIn(0, 0), 0);
+        DUE.same("none of 80 is rejected", g.rejected(), 0);
         DUE.same("80 boxes", g.advance(80), 80);
         DUE.state("handled items count too", () -> g.addItem(1, 1, 0, 9));
         g.undo();
@@ -614,7 +671,7 @@ public final class BoundaryChangeTest {
         FishGrader g = rich();
         DUE.state("no state is saved", () -> g.restore());
         DUE.same("undoable stays", g.undoable(), 1);
-        DUE.same("save", g.save(), 17);
+        DUE.same("save", g.save(), 19);
         String saved = Snapshot.ofState(g);
         DUE.same("save is no change", g.undoable(), 1);
         for (int i = 0; i < 3; i++) {
@@ -625,7 +682,7 @@ public final class BoundaryChangeTest {
             g.release(0, 0);
             g.addItem(70, 100, 2, 9);
             g.advance(5 + i);
-            DUE.same("restore", g.restore(), 17);
+            DUE.same("restore", g.restore(), 19);
             DUE.same("the saved state", Snapshot.ofState(g), saved);
             DUE.same("undoable", g.undoable(), 0);
             DUE.state("nothing can be undone", () -> g.undo());
@@ -633,11 +690,11 @@ public final class BoundaryChangeTest {
             DUE.same("a change since then can be undone", g.undo(), 0);
         }
         g.advance(1);
-        DUE.same("in place of the one before", g.save(), 18);
+        DUE.same("in place of the one before", g.save(), 20);
         g.advance(3);
-        DUE.same("restore", g.restore(), 18);
+        DUE.same("restore", g.restore(), 20);
         g.restore();
-        DUE.same("twice", g.time(), 18);
+        DUE.same("twice", g.time(), 20);
         DUE.part("promise 62: undo does not touch the saved state");
         g.setTarget(0, 55);
         g.save();

@@ -35,6 +35,7 @@ public final class BoundaryTextTest {
         loadOutOfRange();
         loadOfAPart();
         loadSucceeds();
+        loadLeavesNothing();
         loadFails();
         loadFailsWithoutGrader();
         errorsOfTheLatestLoad();
@@ -215,16 +216,18 @@ public final class BoundaryTextTest {
         badAtMark(HEAD + ";ice 0 0 0 0 0;@ice 999 x", 4);
         DUE.part("section 1: without an ice line PERCENT, MAKE, STORE, DUE and MELT are 0");
         FishGrader g = new FishGrader();
-        for (String ice : new String[] {";ice 200 9999 99999 99 50", ""}) {
-            Due.append(g, GOOD + ice + ";item 5 5 vote cod 9");
-            g.load((GOOD + ice).length() + 20);
+        for (String ice : new String[] {";ice 200 9999 99999 99 50", ";ice 200 9999 99999 99 50", ""}) {
+            Due.append(g, GOOD + ice + ";item 15 5 vote cod 9");
+            g.load((GOOD + ice).length() + 21);
         }
+        g.setLimit(9999);
         g.advance(1);
-        DUE.same("closed", g.closed(), 1);
+        DUE.same("closed", g.closedWeight(0), 300);
         DUE.same("no ice is made", g.ice(), 0);
         DUE.same("no ice is needed", g.iceNeeded(), 0);
         g.advance(1);
         DUE.same("iced without ice", g.icedAt(0), 2);
+        DUE.same("iceUsed", g.iceUsed(), 0);
         DUE.same("it was due at once", g.late(), 1);
     }
 
@@ -491,24 +494,57 @@ public final class BoundaryTextTest {
                 + ";item 600 100 vote ling 5;item 100 100 vote ling 9;item 1 1";
         String fresh = Snapshot.ofState(Due.load(text));
         FishGrader g = Due.load(text);
-        g.setRule(2);
-        g.setTarget(0, 80);
-        g.moveQuota(1, 0, 20);
-        g.advance(9);
-        g.addItem(5, 5, 0, 5);
-        g.save();
-        Due.append(g, text);
-        DUE.same("the number of items", g.load(text.length()), 7);
-        DUE.same("everything is as at first", Snapshot.ofState(g), fresh);
-        DUE.same("time", g.time(), 0);
-        DUE.same("rule", g.rule(), 0);
-        DUE.same("undoable", g.undoable(), 0);
-        DUE.state("nothing can be undone", () -> g.undo());
-        DUE.state("no state is saved", () -> g.restore());
+        // More than once: what a first load leaves behind could show in a later one.
+        for (int round = 0; round < 4; round++) {
+            g.setRule(2);
+            g.setTarget(0, 80);
+            g.moveQuota(1, 0, 20);
+            g.advance(9);
+            g.addItem(5, 5, 0, 5);
+            g.save();
+            DUE.same("an iced box", g.icedAt(0), 7);
+            DUE.same("two items in the pool", g.pooled(), 2);
+            DUE.same("a discarded item", g.discarded(1), 600);
+            DUE.same("a rejected item", g.rejected(), 1);
+            DUE.same("closedIn", g.closedIn(100), 0);
+            Due.append(g, text);
+            DUE.same("the number of items", g.load(text.length()), 7);
+            DUE.same("everything is as at first", Snapshot.ofState(g), fresh);
+            DUE.same("time", g.time(), 0);
+            DUE.same("rule", g.rule(), 0);
+            DUE.same("undoable", g.undoable(), 0);
+            DUE.state("nothing can be undone", () -> g.undo());
+            DUE.state("no state is saved", () -> g.restore());
+        }
         g.setLimit(7);
         Due.append(g, text);
         g.load(text.length());
         DUE.same("the limit of the text", g.setLimit(1), 0);
+    }
+
+    private static void loadLeavesNothing() {
+        DUE.part("promise 3: a grader without stop lines and with other species has nothing of those before");
+        FishGrader g = new FishGrader();
+        String full = GOOD + ";stop 1 9;stop 10 20;species b target 7 quota 8 boxes 3 price 9;item 5 5 vote b 9 vote cod 3";
+        String plain = HEAD + ";species x target 1 quota 5 boxes 1 price 1;item 5 500 vote x 7;item 1 100 vote x 7";
+        for (int round = 0; round < 3; round++) {
+            for (String text : new String[] {full, full, plain}) {
+                Due.append(g, text);
+                g.load(text.length());
+            }
+            DUE.same("isStopped(1)", g.isStopped(1) ? 1 : 0, 0);
+            DUE.same("isStopped(15)", g.isStopped(15) ? 1 : 0, 0);
+            DUE.same("speciesCount", g.speciesCount(), 1);
+            DUE.same("items", g.items(), 2);
+            DUE.same("score", g.score(0, 0), 7);
+            DUE.same("agreement", g.agreement(0), 7);
+            DUE.index("content(0, 1)", () -> g.content(0, 1));
+            DUE.index("target(1)", () -> g.target(1));
+            DUE.same("advance", g.advance(1), 1);
+            DUE.same("boxOf(0)", g.boxOf(0), 0);
+            DUE.same("stateOf(1)", g.stateOf(1), 0);
+            DUE.same("label", Due.written(g, g.label(0)), "x 1+0 wait");
+        }
     }
 
     private static void loadFails() {

@@ -153,6 +153,7 @@ public final class BoundaryTickTest {
         DUE.same("5, margin 5", votes(5, " vote d 9 vote b 4").speciesOf(0), 3);
         DUE.same("4, margin 5", votes(5, " vote d 9 vote b 5").speciesOf(0), NONE);
         DUE.same("the greatest of the others counts", votes(5, " vote d 9 vote a 2 vote b 5 vote c 3").speciesOf(0), NONE);
+        DUE.same("also that of the first species", votes(5, " vote d 9 vote a 5").speciesOf(0), NONE);
         DUE.same("not the sum of the others", votes(5, " vote d 9 vote a 4 vote b 4 vote c 4").speciesOf(0), 3);
         DUE.same("equal ones, margin 1", votes(1, " vote d 9 vote a 9").speciesOf(0), NONE);
         DUE.same("equal ones, margin 0", votes(0, " vote d 9 vote a 9").speciesOf(0), 0);
@@ -449,6 +450,21 @@ public final class BoundaryTickTest {
         DUE.same("content(1, 0)", g.content(1, 0), 40);
         DUE.same("content(2, 0)", g.content(2, 0), 40);
         DUE.same("content(2, 1)", g.content(2, 1), 0);
+        // Boxes of a: 85 and 20; boxes of b: 30, 60 and 61.
+        FishGrader h = Due.load(plain(0, 0) + Lines.species("a", 100, 999, 2, 1) + Lines.species("b", 100, 999, 3, 1)
+                + Lines.items("a", 85, 20) + Lines.items("b", 30, 60, 61, 40, 95));
+        h.setRule(2);
+        h.advance(5);
+        DUE.same("case 1", h.advance(1), 1);
+        DUE.same("content(1, 0)", h.content(1, 0), 30);
+        DUE.same("content(1, 1)", h.content(1, 1), 0);
+        DUE.same("content(1, 2)", h.content(1, 2), 61);
+        DUE.same("case 2", h.advance(1), 0);
+        DUE.same("content(1, 1)", h.content(1, 1), 95);
+        h.addItem(90, 100, 1, 9);
+        DUE.same("case 4", h.advance(1), 1);
+        DUE.same("30 + 90", h.closedWeight(1), 120);
+        DUE.same("the boxes of a stay", h.content(0, 0) * 100 + h.content(0, 1), 8520);
     }
 
     private static void caseTwo() {
