@@ -10,7 +10,10 @@ import java.util.Map;
 import java.util.Random;
 import java.util.TreeMap;
 
-/** Random runs of calls, each call made on a FishGrader and on the model; the answers have to be the same. */
+/**
+ * Random runs of calls, each call made on a FishGrader and on the model; the answers have to be the same. Every fourth
+ * run is a wide one: its numbers are taken from the whole of their bounds.
+ */
 public final class RandomRunsTest {
     private static final int RUNS = Integer.getInteger("runs", 1500);
     private static final List<String> CHANGES = List.of("advance", "advance", "advance", "advance", "advance",
@@ -20,6 +23,8 @@ public final class RandomRunsTest {
     private static final List<String> NOT_SWEPT = List.of("load", "restore", "bestLimit", "bestRule");
 
     private final Random random;
+    private final TextMaker maker;
+    private final boolean wide;
     private final FishGrader grader = new FishGrader();
     private final GraderModel model = new GraderModel();
     private final List<String> log = new ArrayList<>();
@@ -29,6 +34,8 @@ public final class RandomRunsTest {
 
     private RandomRunsTest(long seed) {
         random = new Random(seed);
+        maker = new TextMaker(random);
+        wide = seed % 4 == 3;
     }
 
     public static void main(String[] args) throws Exception {
@@ -136,6 +143,31 @@ public final class RandomRunsTest {
             int[] odd = {-1, Integer.MIN_VALUE, Integer.MAX_VALUE, 100, 101, 61, 13, 1000000, 30001, 10000, 20001, 0};
             return odd[random.nextInt(odd.length)];
         }
+        return wide ? wideArgument(name, i) : usualArgument(name, i);
+    }
+
+    /** Amounts from the whole of their bounds; the rest as usual. */
+    private int wideArgument(String name, int i) {
+        switch (name) {
+            case "addItem":
+                return i == 0 ? maker.wide(0, 20000) : i == 1 ? maker.wide(1, 9999)
+                        : i == 2 ? species() : maker.wide(1, 99);
+            case "setLimit":
+                return maker.wide(0, 9999);
+            case "setTarget":
+                return i == 0 ? species() : maker.wide(1, 30000);
+            case "moveQuota":
+                return i < 2 ? species() : maker.wide(1, 999999);
+            case "bestMove":
+                return i == 0 ? maker.wide(1, 999999) : maker.wide(1, 100);
+            case "isStopped":
+                return maker.wide(1, 1100);
+            default:
+                return usualArgument(name, i);
+        }
+    }
+
+    private int usualArgument(String name, int i) {
         switch (name) {
             case "append":
                 return random.nextInt();
@@ -193,7 +225,7 @@ public final class RandomRunsTest {
     // ---- texts
 
     private String loadText(boolean spoiled) throws Exception {
-        String text = new TextMaker(random).text();
+        String text = wide ? maker.wideText() : maker.text();
         if (spoiled) {
             text = spoil(text);
         }

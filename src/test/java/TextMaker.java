@@ -62,6 +62,62 @@ public final class TextMaker {
         return s.toString();
     }
 
+    /** A text whose numbers are taken from the whole of their bounds, the bounds themselves among them. */
+    public String wideText() {
+        int species = from(1, 4);
+        List<String> names = List.of("cod", "ling", "x", "redfishes").subList(0, species);
+        StringBuilder s = new StringBuilder("grader reference ").append(wide(1, 9999)).append(" margin ")
+                .append(random.nextBoolean() ? 0 : wide(0, 99)).append(" limit ").append(wide(0, 9999))
+                .append(" pool ").append(wide(0, 10));
+        if (random.nextInt(4) != 0) {
+            s.append(";ice ").append(wide(0, 200)).append(' ').append(wide(0, 9999)).append(' ')
+                    .append(wide(0, 99999)).append(' ').append(wide(0, 99)).append(' ').append(wide(0, 50));
+        }
+        for (int i = random.nextInt(5); i > 0; i--) {
+            int start = random.nextBoolean() ? from(1, 60) : wide(1, 999);
+            s.append(";stop ").append(start).append(' ')
+                    .append(random.nextBoolean() ? start : wide(start, Math.min(999, start + 20)));
+        }
+        for (int i = 0; i < species; i++) {
+            s.append(";species ").append(names.get(i)).append(" target ").append(wide(1, 30000)).append(" quota ")
+                    .append(random.nextBoolean() ? 999999 : wide(0, 999999)).append(" boxes ").append(wide(1, 3))
+                    .append(" price ").append(wide(0, 99));
+        }
+        for (int i = 0; i < 60; i++) {
+            StringBuilder line = new StringBuilder(";item ").append(wide(0, 20000)).append(' ').append(wide(1, 9999));
+            for (int k = random.nextInt(6) == 0 ? from(1, 2) : 0; k > 0; k--) {
+                line.append(" and ").append(wide(0, 20000)).append(' ').append(wide(1, 9999));
+            }
+            for (int k = random.nextInt(5) == 0 ? from(0, 5) : 1; k > 0; k--) {
+                line.append(" vote ").append(names.get(random.nextInt(species))).append(' ').append(wide(1, 99));
+            }
+            if (s.length() + line.length() > 1500) {
+                break;
+            }
+            s.append(line);
+        }
+        return s.toString();
+    }
+
+    /** Any number of the bounds: one of the bounds, one evenly spread, or one with few digits. */
+    public int wide(int low, int high) {
+        switch (random.nextInt(8)) {
+            case 0:
+                return low;
+            case 1:
+                return high;
+            case 2, 3, 4: {
+                int most = high;
+                for (int k = random.nextInt(4); k > 0 && most / 10 > low; k--) {
+                    most /= 10;
+                }
+                return from(low, most);
+            }
+            default:
+                return from(low, high);
+        }
+    }
+
     private void sample(StringBuilder s) {
         s.append(random.nextInt(15) == 0 ? 0 : from(1, 150)).append(' ').append(from(60, 140));
     }
